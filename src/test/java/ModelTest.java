@@ -8,8 +8,10 @@ import java.util.List;
  * fixed row of numbers, so that each time they are the same.
  */
 public final class ModelTest {
-    private static final int RUNS = 4000;
+    private static final int RUNS = 4500;
     private static final int CALLS = 512;
+    /** The eleven counts at the end, and the three calls that one turn may make. */
+    private static final int CALLS_KEPT = 11 + 3;
 
     private static long drawn = 20261119;
 
@@ -69,7 +71,7 @@ public final class ModelTest {
         int spoils = 3 + draw(30);
         boolean marks = oneIn(2);
         int calls = 0;
-        while (calls < CALLS) {
+        while (calls <= CALLS - CALLS_KEPT) {
             calls++;
             int what = draw(20);
             int flow = oneIn(150) ? draw(7) - 1 : draw(flows);
